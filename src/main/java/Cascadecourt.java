@@ -67,8 +67,7 @@ public final class Cascadecourt {
         if (!isThrow(lowThrow) || !isThrow(highThrow)) {
             throw new IllegalStateException("a throw would not be 0 to 9");
         }
-        told.setThrow(low, lowThrow);
-        told.setThrow(high, highThrow);
+        told.putThrows(low, lowThrow, high, highThrow);
         return lowThrow;
     }
 
@@ -388,7 +387,8 @@ public final class Cascadecourt {
 
     private int stepsInto(Row told) {
         int state = juggler.state();
-        if (!told.isSound() || told.props() != Integer.bitCount(state)) {
+        // This keeps out a ROW that is not SOUND, too: its PROPS are NONE.
+        if (told.props() != Integer.bitCount(state)) {
             return NONE;
         }
         ways.lookFrom(state);
@@ -436,7 +436,12 @@ public final class Cascadecourt {
     private static final class Row {
         private final int[] heights = new int[MOST_SITES];
         private final int[] work = new int[MOST_SITES];
+        // What follows from the THROWS is kept SITE by SITE, as it is asked more often than they change.
+        private final int[] landings = new int[MOST_SITES];
+        private final int[] turns = new int[MOST_SITES];
+        private final int[] states = new int[MOST_SITES];
         private int length;
+        private boolean sound;
 
         Row(int throwsTold, int sites) {
             length = sites;
@@ -445,6 +450,7 @@ public final class Cascadecourt {
                 setCell(heights, site, digits % 10);
                 digits /= 10;
             }
+            settle();
         }
 
         int length() {
@@ -455,6 +461,10 @@ public final class Cascadecourt {
             return site >= 0 && site < length;
         }
 
+        boolean isSound() {
+            return sound;
+        }
+
         int siteOf(int beat) {
             return length > 0 ? Math.floorMod(beat, length) : 0;
         }
@@ -463,12 +473,9 @@ public final class Cascadecourt {
             return cell(heights, siteOf(beat));
         }
 
-        void setThrow(int site, int height) {
-            setCell(heights, site, height);
-        }
-
-        int landingSite(int site) {
-            return siteOf(site + throwAt(site));
+        /** The STATE at that SITE (of a SOUND ROW). */
+        int stateAt(int site) {
+            return cell(states, site);
         }
 
         boolean moveSites(int by) {
@@ -480,7 +487,8 @@ public final class Cascadecourt {
 
         boolean reverseTime() {
             for (int site = 0; site < length; site++) {
-                setCell(work, siteOf(-(site + throwAt(site))), throwAt(site));
+                int height = cell(heights, site);
+                setCell(work, siteOf(-(site + height)), height);
             }
             return adoptWork();
         }
@@ -489,25 +497,72 @@ public final class Cascadecourt {
             boolean differs = false;
             for (int site = 0; site < length; site++) {
                 int height = cell(work, site);
-                differs = differs || height != throwAt(site);
-                setThrow(site, height);
+                differs = differs || height != cell(heights, site);
+                setCell(heights, site, height);
             }
+            settle();
             return differs;
+        }
+
+        void putThrows(int one, int heightOfOne, int other, int heightOfOther) {
+            setCell(heights, one, heightOfOne);
+            setCell(heights, other, heightOfOther);
+            settle();
         }
 
         void addToThrows(int by) {
             for (int site = 0; site < length; site++) {
-                setThrow(site, throwAt(site) + by);
+                setCell(heights, site, cell(heights, site) + by);
             }
+            settle();
         }
 
         void append(Row behind) {
-            // The other one may be this one, so its LENGTH stays till all its THROWS are read.
+            // The other one may be this one, so LENGTH stays till all THROWS are read.
             int added = behind.length;
             for (int site = 0; site < added; site++) {
-                setThrow(length + site, behind.throwAt(site));
+                setCell(heights, length + site, cell(behind.heights, site));
             }
             length += added;
+            settle();
+        }
+
+        private void settle() {
+            int landed = 0;
+            for (int site = 0; site < length; site++) {
+                int landing = siteOf(site + cell(heights, site));
+                setCell(landings, site, landing);
+                landed |= 1 << landing;
+            }
+            sound = Integer.bitCount(landed) == length;
+            for (int site = 0; site < length; site++) {
+                setCell(turns, site, turnFrom(site));
+                setCell(states, site, stateBefore(site));
+            }
+        }
+
+        private int turnFrom(int start) {
+            int sum = 0;
+            int site = start;
+            for (int step = 0; step < length; step++) {
+                sum += cell(heights, site);
+                site = cell(landings, site);
+                if (site == start) {
+                    return sum;
+                }
+            }
+            return sum;
+        }
+
+        private int stateBefore(int site) {
+            int state = 0;
+            for (int ago = 1; ago <= HIGHEST; ago++) {
+                int ahead = throwAt(site - ago) - ago;
+                if (ahead >= 0) {
+                    state |= 1 << ahead;
+                }
+            }
+            return state;
         }
 
         int answer(int what) {
@@ -515,71 +570,49 @@ public final class Cascadecourt {
                 case 0:
                     return length;
                 case 1:
-                    return isSound() ? 1 : 0;
+                    return sound ? 1 : 0;
                 case 2:
                     return props();
                 case 3:
                     return highestThrow();
                 case 4:
                     return crossingThrows();
+                case 5:
+                    return sound ? orbits() : NONE;
+                case 6:
+                    return sound ? oneIfPrime() : NONE;
+                case 7:
+                    return sound ? oneIfGround() : NONE;
                 case 8:
                     return period();
                 default:
-                    return isSound() ? answerOfSound(what) : NONE;
-            }
-        }
-
-        private int answerOfSound(int what) {
-            switch (what) {
-                case 5:
-                    return orbits();
-                case 6:
-                    return isPrime() ? 1 : 0;
-                case 7:
-                    return isGround() ? 1 : 0;
-                default:
-                    return greatestTurn();
+                    return sound ? greatestTurn() : NONE;
             }
         }
 
         int answerAt(int site, int what) {
             switch (what) {
                 case 0:
-                    return throwAt(site);
+                    return cell(heights, site);
                 case 1:
-                    return landingSite(site);
-                default:
-                    return isSound() ? answerAtSound(site, what) : NONE;
-            }
-        }
-
-        private int answerAtSound(int site, int what) {
-            switch (what) {
+                    return cell(landings, site);
                 case 2:
-                    return stateAt(site);
+                    return sound ? stateAt(site) : NONE;
                 case 3:
-                    return turnOfOrbit(site);
+                    return sound ? cell(turns, site) : NONE;
                 default:
-                    return length > 0 ? turnOfOrbit(site) / length : NONE;
+                    return sound && length > 0 ? cell(turns, site) / length : NONE;
             }
-        }
-
-        boolean isSound() {
-            int landed = 0;
-            for (int site = 0; site < length; site++) {
-                landed |= 1 << landingSite(site);
-            }
-            return Integer.bitCount(landed) == length;
         }
 
         int props() {
-            return length > 0 && isSound() ? sumOfThrows() / length : NONE;
+            return sound && length > 0 ? sumOfThrows() / length : NONE;
         }
 
         int sumOfThrows() {
             int sum = 0;
             for (int site = 0; site < length; site++) {
-                sum += throwAt(site);
+                sum += cell(heights, site);
             }
             return sum;
         }
@@ -587,7 +620,7 @@ public final class Cascadecourt {
         int highestThrow() {
             int highest = 0;
             for (int site = 0; site < length; site++) {
-                highest = Math.max(highest, throwAt(site));
+                highest = Math.max(highest, cell(heights, site));
             }
             return highest;
         }
@@ -595,7 +628,7 @@ public final class Cascadecourt {
         int lowestThrow() {
             int lowest = HIGHEST;
             for (int site = 0; site < length; site++) {
-                lowest = Math.min(lowest, throwAt(site));
+                lowest = Math.min(lowest, cell(heights, site));
             }
             return lowest;
         }
@@ -603,7 +636,7 @@ public final class Cascadecourt {
         private int crossingThrows() {
             int crossing = 0;
             for (int site = 0; site < length; site++) {
-                crossing += throwAt(site) % 2;
+                crossing += cell(heights, site) % 2;
             }
             return crossing;
         }
@@ -622,94 +655,67 @@ public final class Cascadecourt {
                 return false;
             }
             for (int site = 0; site < length; site++) {
-                if (throwAt(site + by) != wanted.throwAt(site)) {
+                if (throwAt(site + by) != cell(wanted.heights, site)) {
                     return false;
                 }
             }
             return true;
         }
 
-        /** The set of the SITES in the ORBIT of that one (of a SOUND ROW). */
-        private int orbitOf(int start) {
-            int sites = 0;
-            int site = start;
-            for (int step = 0; step < length; step++) {
-                sites |= 1 << site;
-                site = landingSite(site);
-            }
-            return sites;
-        }
-
         private int orbits() {
             int found = 0;
-            int seen = 0;
             for (int site = 0; site < length; site++) {
-                if (throwAt(site) > 0 && (seen & (1 << site)) == 0) {
+                if (cell(heights, site) > 0 && isFirstOfOrbit(site)) {
                     found++;
-                    seen |= orbitOf(site);
                 }
             }
             return found;
         }
 
-        private int turnOfOrbit(int start) {
-            int sites = orbitOf(start);
-            int sum = 0;
-            for (int site = 0; site < length; site++) {
-                if ((sites & (1 << site)) != 0) {
-                    sum += throwAt(site);
+        private boolean isFirstOfOrbit(int start) {
+            int site = start;
+            for (int step = 0; step < length; step++) {
+                site = cell(landings, site);
+                if (site < start) {
+                    return false;
                 }
             }
-            return sum;
+            return true;
         }
 
         private int greatestTurn() {
             int greatest = 0;
             for (int site = 0; site < length; site++) {
-                greatest = Math.max(greatest, turnOfOrbit(site));
+                greatest = Math.max(greatest, cell(turns, site));
             }
             return greatest;
         }
 
-        /** The STATE at that SITE (of a SOUND ROW). */
-        int stateAt(int site) {
-            int state = 0;
-            for (int ago = 1; ago <= HIGHEST; ago++) {
-                int ahead = throwAt(site - ago) - ago;
-                if (ahead >= 0) {
-                    state |= 1 << ahead;
-                }
-            }
-            return state;
-        }
-
-        private boolean isPrime() {
+        private int oneIfPrime() {
             for (int site = 0; site < length; site++) {
-                int state = stateAt(site);
                 for (int earlier = 0; earlier < site; earlier++) {
-                    if (cell(work, earlier) == state) {
-                        return false;
+                    if (stateAt(site) == stateAt(earlier)) {
+                        return 0;
                     }
                 }
-                setCell(work, site, state);
             }
-            return true;
+            return 1;
         }
 
-        private boolean isGround() {
+        private int oneIfGround() {
             int ground = (1 << props()) - 1;
             for (int site = 0; site < length; site++) {
                 if (stateAt(site) == ground) {
-                    return true;
+                    return 1;
                 }
             }
-            return false;
+            return 0;
         }
 
         String digits() {
             StringBuilder shown = new StringBuilder();
             for (int site = 0; site < length; site++) {
-                shown.append((char) ('0' + throwAt(site)));
+                shown.append((char) ('0' + cell(heights, site)));
             }
             return shown.toString();
         }
@@ -766,7 +772,8 @@ public final class Cascadecourt {
         }
 
         private int beatsTillLanding(int prop) {
-            return isDropped(prop) ? NONE : cell(landsAt, prop) - beat;
+            int landing = cell(landsAt, prop);
+            return landing == NONE ? NONE : landing - beat;
         }
 
         private int handOf(int prop) {
@@ -776,8 +783,9 @@ public final class Cascadecourt {
         int state() {
             int state = 0;
             for (int prop = 0; prop < props; prop++) {
-                if (!isDropped(prop)) {
-                    state |= 1 << beatsTillLanding(prop);
+                int beats = beatsTillLanding(prop);
+                if (beats != NONE) {
+                    state |= 1 << beats;
                 }
             }
             return state;
@@ -786,7 +794,7 @@ public final class Cascadecourt {
         /** The prop that is to land that many beats from now; NONE without one. */
         int propLandingIn(int beats) {
             for (int prop = 0; prop < props; prop++) {
-                if (!isDropped(prop) && beatsTillLanding(prop) == beats) {
+                if (beatsTillLanding(prop) == beats) {
                     return prop;
                 }
             }
@@ -919,9 +927,9 @@ public final class Cascadecourt {
             int found = foundBefore;
             for (int height = 0; height <= HIGHEST; height++) {
                 int behind = stateBehind(state, height);
-                if (behind != NONE && stepsTo(behind) == NONE) {
-                    setCell(steps, behind, stepsTo(state) + 1);
-                    setCell(firstThrows, behind, state == start ? height : firstThrowTo(state));
+                if (behind != NONE && cell(steps, behind) == NONE) {
+                    setCell(steps, behind, cell(steps, state) + 1);
+                    setCell(firstThrows, behind, state == start ? height : cell(firstThrows, state));
                     setCell(waiting, found, behind);
                     found++;
                 }

@@ -35,12 +35,16 @@ public final class AskedTest {
     private static void ofRow() {
         rowIs("3", 1, 1, 3, 3, 1, 1, 1, 1, 1, 3);
         rowIs("0", 1, 1, 0, 0, 0, 0, 1, 1, 1, 0);
+        rowIs("1", 1, 1, 1, 1, 1, 1, 1, 1, 1, 1);
         rowIs("9", 1, 1, 9, 9, 1, 1, 1, 1, 1, 9);
         rowIs("441", 3, 1, 3, 4, 1, 1, 1, 1, 3, 9);
         rowIs("51", 2, 1, 3, 5, 2, 1, 1, 0, 2, 6);
         rowIs("97531", 5, 1, 5, 9, 5, 3, 1, 1, 5, 10);
         rowIs("531", 3, 1, 3, 5, 3, 2, 1, 1, 3, 6);
         rowIs("333", 3, 1, 3, 3, 3, 3, 0, 1, 1, 3);
+        // One SITE too many at the GROUND, in front or at the end: not PRIME.
+        rowIs("3441", 4, 1, 3, 4, 2, 3, 0, 1, 4, 4);
+        rowIs("4413", 4, 1, 3, 4, 2, 3, 0, 1, 4, 4);
         rowIs("0000", 4, 1, 0, 0, 0, 0, 0, 1, 1, 0);
         rowIs("4242", 4, 1, 3, 4, 0, 3, 0, 1, 2, 4);
         rowIs("6040", 4, 0, -1, 6, 0, -1, -1, -1, 4, -1);
@@ -100,6 +104,11 @@ public final class AskedTest {
         sitesAre("0", 2, 0);
         sitesAre("1", 2, 1);
         sitesAre("90000000", 1, 1);
+        sitesAre("3", 3, 3);
+        sitesAre("3", 4, 3);
+        sitesAre("0", 3, 0);
+        sitesAre("0", 4, 0);
+        sitesAre("1", 4, 1);
     }
 
     private static void ofSiteWrong() {

@@ -177,6 +177,9 @@ public final class WouldBeTest {
         Check.that("alike(7, 6)", 1, court.alike(7, 6));
         court.swap(1, 3, 4);
         Check.that("alike: the same sum, other THROWS", -1, court.alike(0, 1));
+        Cascadecourt near = courtWith("345", "945", "349");
+        Check.that("alike: another THROW at SITE 0", -1, near.alike(0, 1));
+        Check.that("alike: another THROW at the last SITE", -1, near.alike(0, 2));
         Cascadecourt two = courtWith("3", "3");
         Check.that("alike(0, 1) of 3 and 3", 0, two.alike(0, 1));
         Check.fails("alike(0, 2)", INDEX, two, () -> two.alike(0, 2));
