@@ -12,6 +12,7 @@ public final class RowsTest {
         raise();
         turn();
         join();
+        changedRows();
         Check.end("RowsTest");
     }
 
@@ -21,6 +22,40 @@ public final class RowsTest {
             court.tell(Integer.parseInt(row), row.length());
         }
         return court;
+    }
+
+    /** What is asked of the ROW 0 is what is asked of one that is told with the THROWS that it has then. */
+    private static void isAsToldAnew(String change, Cascadecourt court) {
+        Cascadecourt anew = courtWith(court.text(0));
+        for (int what = 0; what <= 9; what++) {
+            Check.that("ofRow " + what + " behind " + change, anew.ofRow(0, what), court.ofRow(0, what));
+        }
+        for (int site = 0; site < anew.ofRow(0, 0); site++) {
+            for (int what = 0; what <= 4; what++) {
+                Check.that("ofSite " + site + " " + what + " behind " + change,
+                        anew.ofSite(0, site, what), court.ofSite(0, site, what));
+            }
+        }
+    }
+
+    private static void changedRows() {
+        Cascadecourt court = courtWith("97531", "441");
+        court.shift(0, 1);
+        isAsToldAnew("shift()", court);
+        court.turn(0);
+        isAsToldAnew("turn()", court);
+        court.swap(0, 0, 1);
+        isAsToldAnew("swap()", court);
+        court.raise(0, -1);
+        isAsToldAnew("raise()", court);
+        court.join(0, 1);
+        isAsToldAnew("join()", court);
+        Cascadecourt sound = courtWith("441", "51");
+        sound.join(0, 1);
+        isAsToldAnew("join() of two sound ones", sound);
+        sound.join(1, 1);
+        Check.that("join() of one to itself", 4, sound.ofRow(1, 0));
+        Check.that("join(): STATES of both halves", sound.ofSite(1, 0, 2), sound.ofSite(1, 2, 2));
     }
 
     private static void newObject() {
