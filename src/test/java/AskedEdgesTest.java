@@ -72,32 +72,17 @@ public final class AskedEdgesTest {
         highNoSuchRow();
     }
 
-    /** All answers of ofRow() to one question, ROW by ROW. */
-    private static void rowsAnswer(int what, Object... rowsAndAnswers) {
-        for (int at = 0; at + 1 < rowsAndAnswers.length; at += 2) {
-            String row = (String) rowsAndAnswers[at];
-            Check.that("ofRow of " + row + ", " + what, rowsAndAnswers[at + 1], Courts.with(row).ofRow(0, what));
-        }
-    }
-
-    private static void sitesAnswer(String row, int what, int... due) {
-        Cascadecourt court = Courts.with(row);
-        for (int site = 0; site < due.length; site++) {
-            Check.that("ofSite of " + row + ", " + site + ", " + what, due[site], court.ofSite(0, site, what));
-        }
-    }
-
     private static void ofRowLengthAndHighest() {
         Check.sentence(OF_ROW, "0 LENGTH, 1 1 if it is SOUND, otherwise 0, 2 PROPS, 3 the highest THROW");
-        rowsAnswer(0, "0", 1, "9", 1, "00000000", 8, "99999999", 8, "01", 2);
-        rowsAnswer(3, "0", 0, "9", 9, "00000000", 0, "90000000", 9, "00000009", 9, "00010000", 1, "88888889", 9);
+        Answers.ofRows(0, "0", 1, "9", 1, "00000000", 8, "99999999", 8, "01", 2);
+        Answers.ofRows(3, "0", 0, "9", 9, "00000000", 0, "90000000", 9, "00000009", 9, "00010000", 1, "88888889", 9);
     }
 
     private static void ofRowPeriod() {
         Check.sentence(OF_ROW, "8 the smallest number of beats behind which its THROWS are the same as before "
                 + "(a divisor of LENGTH)");
         // 1212121 comes again behind 7 beats alone: 2 is no divisor of 7.
-        rowsAnswer(8, "5", 1, "55", 1, "5555555", 1, "00000000", 1, "12345678", 8, "12121212", 2, "12341234", 4,
+        Answers.ofRows(8, "5", 1, "55", 1, "5555555", 1, "00000000", 1, "12345678", 8, "12121212", 2, "12341234", 4,
                 "1212121", 7, "12112", 5, "123123", 3, "121212", 2, "112112", 3, "1121", 4, "1112", 4, "2111", 4,
                 "10000000", 8, "11111110", 8, "121112", 6);
     }
@@ -111,18 +96,18 @@ public final class AskedEdgesTest {
             }
         }
         // The others are asked of a ROW that is not SOUND, too.
-        rowsAnswer(0, "321", 3, "10", 2);
-        rowsAnswer(1, "321", 0, "10", 0);
-        rowsAnswer(3, "321", 3, "10", 1);
-        rowsAnswer(4, "321", 2, "10", 1);
-        rowsAnswer(8, "321", 3, "10", 2);
+        Answers.ofRows(0, "321", 3, "10", 2);
+        Answers.ofRows(1, "321", 0, "10", 0);
+        Answers.ofRows(3, "321", 3, "10", 1);
+        Answers.ofRows(4, "321", 2, "10", 1);
+        Answers.ofRows(8, "321", 3, "10", 2);
     }
 
     private static void ofRowWithoutOrbit() {
         Check.sentence(OF_ROW, "9: 0 without an ORBIT");
-        rowsAnswer(9, "0", 0, "00000000", 0, "1", 1, "80000000", 8, "00000008", 8, "28", 8, "82", 8, "99999999", 72,
+        Answers.ofRows(9, "0", 0, "00000000", 0, "1", 1, "80000000", 8, "00000008", 8, "28", 8, "82", 8, "99999999", 72,
                 "20", 2, "97531", 10);
-        rowsAnswer(5, "0", 0, "00000000", 0);
+        Answers.ofRows(5, "0", 0, "00000000", 0);
     }
 
     private static void ofRowNoSuchRow() {
@@ -139,40 +124,40 @@ public final class AskedEdgesTest {
 
     private static void ofSiteLanding() {
         Check.sentence(OF_SITE, "1 the SITE at which that lands (modulo LENGTH)");
-        sitesAnswer("9", 1, 0);
-        sitesAnswer("19", 1, 1, 0);
-        sitesAnswer("70000001", 1, 7, 1, 2, 3, 4, 5, 6, 0);
-        sitesAnswer("99999999", 1, 1, 2, 3, 4, 5, 6, 7, 0);
-        sitesAnswer("88888888", 1, 0, 1, 2, 3, 4, 5, 6, 7);
-        sitesAnswer("00000009", 1, 0, 1, 2, 3, 4, 5, 6, 0);
-        sitesAnswer("321", 1, 0, 0, 0);
+        Answers.ofSites("9", 1, 0);
+        Answers.ofSites("19", 1, 1, 0);
+        Answers.ofSites("70000001", 1, 7, 1, 2, 3, 4, 5, 6, 0);
+        Answers.ofSites("99999999", 1, 1, 2, 3, 4, 5, 6, 7, 0);
+        Answers.ofSites("88888888", 1, 0, 1, 2, 3, 4, 5, 6, 7);
+        Answers.ofSites("00000009", 1, 0, 1, 2, 3, 4, 5, 6, 0);
+        Answers.ofSites("321", 1, 0, 0, 0);
     }
 
     private static void ofSiteNotSound() {
         Check.sentence(OF_SITE, "2 to 4: NONE, if the ROW is not SOUND");
         for (int what = 2; what <= 4; what++) {
-            sitesAnswer("321", what, -1, -1, -1);
-            sitesAnswer("10", what, -1, -1);
-            sitesAnswer("00000009", what, -1, -1, -1, -1, -1, -1, -1, -1);
+            Answers.ofSites("321", what, -1, -1, -1);
+            Answers.ofSites("10", what, -1, -1);
+            Answers.ofSites("00000009", what, -1, -1, -1, -1, -1, -1, -1, -1);
         }
-        sitesAnswer("321", 0, 3, 2, 1);
-        sitesAnswer("00000009", 0, 0, 0, 0, 0, 0, 0, 0, 9);
+        Answers.ofSites("321", 0, 3, 2, 1);
+        Answers.ofSites("00000009", 0, 0, 0, 0, 0, 0, 0, 0, 9);
     }
 
     private static void ofSiteWithoutThrow() {
         Check.sentence(OF_SITE, "3 and 4 of a SOUND one: 0 with a THROW of 0; 1 with a THROW of 0: the SITE itself");
-        sitesAnswer("0", 1, 0);
-        sitesAnswer("0", 3, 0);
-        sitesAnswer("0", 4, 0);
-        sitesAnswer("4400", 1, 0, 1, 2, 3);
-        sitesAnswer("4400", 3, 4, 4, 0, 0);
-        sitesAnswer("4400", 4, 1, 1, 0, 0);
+        Answers.ofSites("0", 1, 0);
+        Answers.ofSites("0", 3, 0);
+        Answers.ofSites("0", 4, 0);
+        Answers.ofSites("4400", 1, 0, 1, 2, 3);
+        Answers.ofSites("4400", 3, 4, 4, 0, 0);
+        Answers.ofSites("4400", 4, 1, 1, 0, 0);
         // The STATE is asked at a SITE with a THROW of 0, too.
-        sitesAnswer("4400", 2, 3, 9, 12, 6);
-        sitesAnswer("70000001", 1, 7, 1, 2, 3, 4, 5, 6, 0);
-        sitesAnswer("70000001", 3, 8, 0, 0, 0, 0, 0, 0, 8);
+        Answers.ofSites("4400", 2, 3, 9, 12, 6);
+        Answers.ofSites("70000001", 1, 7, 1, 2, 3, 4, 5, 6, 0);
+        Answers.ofSites("70000001", 3, 8, 0, 0, 0, 0, 0, 0, 8);
         // In a ROW that is not SOUND a THROW of 0 has its SITE all the same.
-        sitesAnswer("6040", 1, 2, 1, 2, 3);
+        Answers.ofSites("6040", 1, 2, 1, 2, 3);
     }
 
     private static void ofSiteNoSuchRow() {
@@ -211,63 +196,57 @@ public final class AskedEdgesTest {
         Edges.noSuchRow("text", "441", Cascadecourt::text);
     }
 
-    private static void propsAnswer(Cascadecourt court, int what, int... due) {
-        for (int prop = 0; prop < due.length; prop++) {
-            Check.that("ofProp(" + prop + ", " + what + ")", due[prop], court.ofProp(prop, what));
-        }
-    }
-
     private static void ofPropLanding() {
         Check.sentence(OF_PROP, "0 in how many beats it is to land (NONE, if it is DROPPED)");
-        propsAnswer(Courts.thrown(6), 0, 0, 1, 2, 3, 4, 5);
-        propsAnswer(Courts.thrown(2, 9), 0, 8, 0);
-        propsAnswer(Courts.thrown(2, 9, 0), 0, 7, -1);
-        propsAnswer(Courts.thrown(1, 1), 0, 0);
+        Answers.ofProps(Courts.thrown(6), 0, 0, 1, 2, 3, 4, 5);
+        Answers.ofProps(Courts.thrown(2, 9), 0, 8, 0);
+        Answers.ofProps(Courts.thrown(2, 9, 0), 0, 7, -1);
+        Answers.ofProps(Courts.thrown(1, 1), 0, 0);
         Cascadecourt court = Courts.thrown(2, 0, 9);
         court.pick();
-        propsAnswer(court, 0, 0, 8);
+        Answers.ofProps(court, 0, 0, 8);
     }
 
     private static void ofPropFlights() {
         Check.sentence(OF_PROP, "1 FLIGHTS");
-        propsAnswer(Courts.thrown(6), 1, 0, 0, 0, 0, 0, 0);
-        propsAnswer(Courts.thrown(2, 9, 0), 1, 1, 0);
-        propsAnswer(Courts.thrown(1, 1, 1, 1, 0), 1, 3);
+        Answers.ofProps(Courts.thrown(6), 1, 0, 0, 0, 0, 0, 0);
+        Answers.ofProps(Courts.thrown(2, 9, 0), 1, 1, 0);
+        Answers.ofProps(Courts.thrown(1, 1, 1, 1, 0), 1, 3);
         Cascadecourt court = Courts.thrown(1, 1, 0);
         court.pick();
-        propsAnswer(court, 1, 1);
+        Answers.ofProps(court, 1, 1);
         court.toss(1);
-        propsAnswer(court, 1, 2);
+        Answers.ofProps(court, 1, 2);
         court.take(1);
-        propsAnswer(court, 1, 0);
+        Answers.ofProps(court, 1, 0);
     }
 
     private static void ofPropDropped() {
         Check.sentence(OF_PROP, "2 how often it was DROPPED since it was taken");
         Cascadecourt court = Courts.thrown(2);
-        propsAnswer(court, 2, 0, 0);
+        Answers.ofProps(court, 2, 0, 0);
         court.toss(1);
-        propsAnswer(court, 2, 1, 1);
+        Answers.ofProps(court, 2, 1, 1);
         for (int time = 2; time <= 5; time++) {
             court.pick();
-            propsAnswer(court, 2, time - 1, 1);
+            Answers.ofProps(court, 2, time - 1, 1);
             court.toss(0);
-            propsAnswer(court, 2, time, 1);
+            Answers.ofProps(court, 2, time, 1);
         }
         court.take(2);
-        propsAnswer(court, 2, 0, 0);
+        Answers.ofProps(court, 2, 0, 0);
     }
 
     private static void ofPropHand() {
         Check.sentence(OF_PROP, "3 the hand to which it goes (0 right, 1 left; NONE, if it is DROPPED)");
-        propsAnswer(Courts.thrown(6), 3, 0, 1, 0, 1, 0, 1);
+        Answers.ofProps(Courts.thrown(6), 3, 0, 1, 0, 1, 0, 1);
         // 9 from the beat 0 goes to the left hand, 9 from the beat 1 to the right one.
-        propsAnswer(Courts.thrown(3, 9, 9), 3, 1, 0, 0);
-        propsAnswer(Courts.thrown(3, 8, 8), 3, 0, 1, 0);
-        propsAnswer(Courts.thrown(3, 0), 3, -1, 1, 0);
+        Answers.ofProps(Courts.thrown(3, 9, 9), 3, 1, 0, 0);
+        Answers.ofProps(Courts.thrown(3, 8, 8), 3, 0, 1, 0);
+        Answers.ofProps(Courts.thrown(3, 0), 3, -1, 1, 0);
         Cascadecourt court = Courts.thrown(1, 0);
         court.pick();
-        propsAnswer(court, 3, 1);
+        Answers.ofProps(court, 3, 1);
     }
 
     private static void ofPropNoSuchProp() {

@@ -44,9 +44,7 @@ final class Check {
 
     /** The call throws just that exception, and changes nothing. */
     static void fails(String what, Class<? extends RuntimeException> due, Cascadecourt court, Call call) {
-        String before = Courts.all(court);
-        that(what, due, outcome(call));
-        that(what + ": all answers behind it", before, Courts.all(court));
+        keepsAll(what, due, court, call);
     }
 
     /** The call throws nothing. */

@@ -22,13 +22,35 @@ public final class FaceTest {
     }
 
     private static void members() {
-        Check.that("the class is public and final", Modifier.PUBLIC | Modifier.FINAL, Cascadecourt.class.getModifiers());
+        int modifiers = Cascadecourt.class.getModifiers();
+        Check.that("the class is public and final", Modifier.PUBLIC | Modifier.FINAL, modifiers);
+        String index = "IndexOutOfBoundsException";
+        String argument = "IllegalArgumentException";
+        String state = "IllegalStateException";
         List<String> due = Arrays.asList(
-                "int tell int,int", "boolean shift int,int", "int swap int,int,int", "int raise int,int",
-                "boolean turn int", "int join int,int", "int take int", "int toss int", "int run int,int,int",
-                "int pick ", "int ofRow int,int", "int ofSite int,int,int", "String text int", "int ofProp int,int",
-                "int many int", "double tired ", "double high int", "int would int", "int way int", "int first int",
-                "int count int,int", "int alike int,int", "long digest ");
+                "int tell [int, int] " + Arrays.asList(argument, state),
+                "boolean shift [int, int] " + Arrays.asList(index, argument),
+                "int swap [int, int, int] " + Arrays.asList(index, argument, state),
+                "int raise [int, int] " + Arrays.asList(index, argument, state),
+                "boolean turn [int] " + Arrays.asList(index, state),
+                "int join [int, int] " + Arrays.asList(index, state),
+                "int take [int] " + Arrays.asList(argument),
+                "int toss [int] " + Arrays.asList(argument),
+                "int run [int, int, int] " + Arrays.asList(index, argument),
+                "int pick [] []",
+                "int ofRow [int, int] " + Arrays.asList(index, argument),
+                "int ofSite [int, int, int] " + Arrays.asList(index, argument),
+                "String text [int] " + Arrays.asList(index),
+                "int ofProp [int, int] " + Arrays.asList(index, argument),
+                "int many [int] " + Arrays.asList(argument),
+                "double tired [] []",
+                "double high [int] " + Arrays.asList(index),
+                "int would [int] " + Arrays.asList(argument),
+                "int way [int] " + Arrays.asList(index),
+                "int first [int] " + Arrays.asList(index),
+                "int count [int, int] " + Arrays.asList(argument),
+                "int alike [int, int] " + Arrays.asList(index),
+                "long digest [] []");
         List<String> found = new ArrayList<>();
         for (Method method : Cascadecourt.class.getDeclaredMethods()) {
             if (!Modifier.isPrivate(method.getModifiers())) {
@@ -38,6 +60,10 @@ public final class FaceTest {
         Collections.sort(due);
         Collections.sort(found);
         Check.that("the methods", due, found);
+        fieldsAndConstructor();
+    }
+
+    private static void fieldsAndConstructor() {
         for (Field field : Cascadecourt.class.getDeclaredFields()) {
             Check.that(field + " is private", true, Modifier.isPrivate(field.getModifiers()));
         }
@@ -47,13 +73,18 @@ public final class FaceTest {
         Check.that("it takes nothing", 0, constructors[0].getParameterCount());
     }
 
+    /** What it returns, its name, what it takes, and the exceptions that it tells. */
     private static String faceOf(Method method) {
-        StringBuilder face = new StringBuilder();
-        face.append(method.getReturnType().getSimpleName()).append(' ').append(method.getName()).append(' ');
-        for (int place = 0; place < method.getParameterCount(); place++) {
-            face.append(place == 0 ? "" : ",").append(method.getParameterTypes()[place].getSimpleName());
+        return method.getReturnType().getSimpleName() + " " + method.getName() + " "
+                + namesOf(method.getParameterTypes()) + " " + namesOf(method.getExceptionTypes());
+    }
+
+    private static List<String> namesOf(Class<?>[] types) {
+        List<String> names = new ArrayList<>();
+        for (Class<?> type : types) {
+            names.add(type.getSimpleName());
         }
-        return face.toString();
+        return names;
     }
 
     private static Cascadecourt playedCourt() {

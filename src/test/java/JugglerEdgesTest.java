@@ -21,31 +21,22 @@ public final class JugglerEdgesTest {
         Check.end("JugglerEdgesTest");
     }
 
-    private static void manyIs(Cascadecourt court, int... due) {
-        for (int what = 0; what < due.length; what++) {
-            Check.that("many(" + what + ")", due[what], court.many(what));
-        }
-    }
-
     private static void takeForgets() {
         Check.sentence(TAKE, "all that was of the juggler is forgotten, but what is counted ever.");
         Cascadecourt court = Courts.with("441", "321");
         // Before the first TAKE there are beats and SLIPS, too.
         Courts.tossAll(court, 0, 7);
         court.take(4);
-        manyIs(court, 2, 4, 15, 0, 1, 0, 0, 1, 0, 2);
+        Answers.many(court, 2, 4, 15, 0, 1, 0, 0, 1, 0, 2);
         // 5 is thrown, 0 and 1 drop three props, pick() brings one of them up.
         Courts.tossAll(court, 5, 0, 1);
         court.pick();
-        manyIs(court, 2, 4, 5, 3, 3, 2, 1, 1, 1, 5);
+        Answers.many(court, 2, 4, 5, 3, 3, 2, 1, 1, 1, 5);
         Check.that("STATE of two", 3, court.take(2));
-        manyIs(court, 2, 2, 3, 0, 3, 0, 0, 1, 0, 5);
+        Answers.many(court, 2, 2, 3, 0, 3, 0, 0, 1, 0, 5);
         Check.that("TIRED", 0.0, court.tired());
         for (int prop = 0; prop < 2; prop++) {
-            int[] due = {prop, 0, 0, prop};
-            for (int what = 0; what <= 3; what++) {
-                Check.that("ofProp(" + prop + ", " + what + ")", due[what], court.ofProp(prop, what));
-            }
+            Answers.ofProp(court, prop, prop, 0, 0, prop);
         }
         Check.fails("the prop 2", Check.INDEX, court, () -> court.ofProp(2, 0));
         Check.that("no prop is still DROPPED", -1, court.pick());

@@ -1,8 +1,5 @@
 /** Promises 8 to 11: the juggler takes, throws, drops and picks up. */
 public final class JugglerTest {
-    private static final Class<IndexOutOfBoundsException> INDEX = IndexOutOfBoundsException.class;
-    private static final Class<IllegalArgumentException> ARGUMENT = IllegalArgumentException.class;
-
     public static void main(String[] args) {
         take();
         toss();
@@ -21,26 +18,20 @@ public final class JugglerTest {
             Check.that("take: props", props, court.many(1));
             Check.that("take: where the last one lands", props - 1, court.ofProp(props - 1, 0));
         }
-        Check.fails("take(0)", ARGUMENT, court, () -> court.take(0));
-        Check.fails("take(7)", ARGUMENT, court, () -> court.take(7));
-        Check.fails("take(-1)", ARGUMENT, court, () -> court.take(-1));
+        Check.fails("take(0)", Check.ARGUMENT, court, () -> court.take(0));
+        Check.fails("take(7)", Check.ARGUMENT, court, () -> court.take(7));
+        Check.fails("take(-1)", Check.ARGUMENT, court, () -> court.take(-1));
         court.toss(6);
         court.toss(5);
         court.toss(0);
         Check.that("take: dropped ahead", 3, court.many(5));
         Check.that("take(2) anew", 3, court.take(2));
-        int[] many = {0, 2, 3, 0, 2, 0, 0, 0, 0, 3};
-        for (int what = 0; what < many.length; what++) {
-            Check.that("take: many(" + what + ")", many[what], court.many(what));
-        }
+        Answers.many(court, 0, 2, 3, 0, 2, 0, 0, 0, 0, 3);
         Check.that("take: tired", 0.0, court.tired());
         for (int prop = 0; prop < 2; prop++) {
-            int[] answers = {prop, 0, 0, prop};
-            for (int what = 0; what < 4; what++) {
-                Check.that("take: ofProp(" + prop + ", " + what + ")", answers[what], court.ofProp(prop, what));
-            }
+            Answers.ofProp(court, prop, prop, 0, 0, prop);
         }
-        Check.fails("take: the third one is gone", INDEX, court, () -> court.ofProp(2, 0));
+        Check.fails("take: the third one is gone", Check.INDEX, court, () -> court.ofProp(2, 0));
     }
 
     private static void toss() {
@@ -65,9 +56,9 @@ public final class JugglerTest {
         Check.that("toss: FLIGHTS of all", 8, court.many(6));
         Check.that("toss: BEAT 9", 9, court.many(3));
         Check.that("toss: beats ever", 9, court.many(9));
-        Check.fails("toss(-1)", ARGUMENT, court, () -> court.toss(-1));
-        Check.fails("toss(10)", ARGUMENT, court, () -> court.toss(10));
-        Check.fails("toss(max)", ARGUMENT, court, () -> court.toss(Integer.MAX_VALUE));
+        Check.fails("toss(-1)", Check.ARGUMENT, court, () -> court.toss(-1));
+        Check.fails("toss(10)", Check.ARGUMENT, court, () -> court.toss(10));
+        Check.fails("toss(max)", Check.ARGUMENT, court, () -> court.toss(Integer.MAX_VALUE));
     }
 
     private static void tossWithSlips() {
@@ -142,15 +133,15 @@ public final class JugglerTest {
         Check.that("run 51 of one", 20, court.run(1, 0, 29));
         Check.that("run: SLIPS ever again", 25, court.many(4));
         Check.that("run: beats ever", 72, court.many(9));
-        Check.fails("run(2, 0, 1)", INDEX, court, () -> court.run(2, 0, 1));
-        Check.fails("run(-1, 0, 1)", INDEX, court, () -> court.run(-1, 0, 1));
-        Check.fails("run(1, 2, 1)", INDEX, court, () -> court.run(1, 2, 1));
-        Check.fails("run(1, -1, 1)", INDEX, court, () -> court.run(1, -1, 1));
-        Check.fails("run(1, 0, 0)", ARGUMENT, court, () -> court.run(1, 0, 0));
-        Check.fails("run(1, 0, 31)", ARGUMENT, court, () -> court.run(1, 0, 31));
-        Check.fails("run(1, 0, -1)", ARGUMENT, court, () -> court.run(1, 0, -1));
-        Check.fails("run(1, 2, 0)", INDEX, court, () -> court.run(1, 2, 0));
-        Check.fails("run(2, 0, 31)", INDEX, court, () -> court.run(2, 0, 31));
+        Check.fails("run(2, 0, 1)", Check.INDEX, court, () -> court.run(2, 0, 1));
+        Check.fails("run(-1, 0, 1)", Check.INDEX, court, () -> court.run(-1, 0, 1));
+        Check.fails("run(1, 2, 1)", Check.INDEX, court, () -> court.run(1, 2, 1));
+        Check.fails("run(1, -1, 1)", Check.INDEX, court, () -> court.run(1, -1, 1));
+        Check.fails("run(1, 0, 0)", Check.ARGUMENT, court, () -> court.run(1, 0, 0));
+        Check.fails("run(1, 0, 31)", Check.ARGUMENT, court, () -> court.run(1, 0, 31));
+        Check.fails("run(1, 0, -1)", Check.ARGUMENT, court, () -> court.run(1, 0, -1));
+        Check.fails("run(1, 2, 0)", Check.INDEX, court, () -> court.run(1, 2, 0));
+        Check.fails("run(2, 0, 31)", Check.INDEX, court, () -> court.run(2, 0, 31));
         Cascadecourt none = new Cascadecourt();
         none.tell(40, 2);
         Check.that("run without props", 2, none.run(0, 0, 4));

@@ -27,7 +27,8 @@ public final class ModelTest {
             int kind = random.nextInt(23);
             int[] given = kind == 0 && random.nextInt(4) > 0 ? soundRow(random) : numbers(random, kind);
             String what = "run " + seed + ", call " + call + ", " + kind + " " + Arrays.toString(given);
-            Check.that(what, answer(() -> model.call(kind, given)), answer(() -> callOf(court, kind, given)));
+            Object due = Check.outcome(() -> model.call(kind, given));
+            Check.that(what, due, Check.outcome(() -> callOf(court, kind, given)));
             if (call % 4 == 0) {
                 Check.that(what + ": digest", model.digest(), court.digest());
             }
@@ -76,14 +77,6 @@ public final class ModelTest {
         }
         int bound = place == 0 ? 8 : place == 1 ? 4 : 5;
         return random.nextInt(kind == 8 || kind == 18 || kind == 15 || place == 1 && random.nextBoolean() ? 10 : bound);
-    }
-
-    private static Object answer(Check.Call call) {
-        try {
-            return call.answer();
-        } catch (RuntimeException thrown) {
-            return thrown.getClass();
-        }
     }
 
     private static Object callOf(Cascadecourt court, int kind, int[] given) {

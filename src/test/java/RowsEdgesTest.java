@@ -82,10 +82,7 @@ public final class RowsEdgesTest {
     private static void withoutRowsAndProps() {
         Check.sentence(NEW, "Creates a court without ROWS and props.");
         Cascadecourt court = new Cascadecourt();
-        int[] due = {0, 0, 0, 0, 0, 0, 0, 0, -1, 0};
-        for (int what = 0; what <= 9; what++) {
-            Check.that("many(" + what + ")", due[what], court.many(what));
-        }
+        Answers.many(court, 0, 0, 0, 0, 0, 0, 0, 0, -1, 0);
         Check.that("tired", 0.0, court.tired());
         Check.that("would(0)", 0, court.would(0));
         Check.that("would(9)", -1, court.would(9));

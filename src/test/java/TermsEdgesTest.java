@@ -58,21 +58,6 @@ public final class TermsEdgesTest {
         firstOfSeveralAboutSites();
     }
 
-    /** All answers of ofRow() to one question, ROW by ROW. */
-    private static void rowsAnswer(int what, Object... rowsAndAnswers) {
-        for (int at = 0; at + 1 < rowsAndAnswers.length; at += 2) {
-            String row = (String) rowsAndAnswers[at];
-            Check.that("ofRow of " + row + ", " + what, rowsAndAnswers[at + 1], Courts.with(row).ofRow(0, what));
-        }
-    }
-
-    private static void sitesAnswer(String row, int what, int... due) {
-        Cascadecourt court = Courts.with(row);
-        for (int site = 0; site < due.length; site++) {
-            Check.that("ofSite of " + row + ", " + site + ", " + what, due[site], court.ofSite(0, site, what));
-        }
-    }
-
     private static void calls() {
         Check.sentence("What it is", "An object is used for at most 512 calls after it has been made");
         Cascadecourt court = new Cascadecourt();
@@ -155,7 +140,7 @@ public final class TermsEdgesTest {
 
     private static void sound() {
         Check.sentence(ROWS, "SITE and THROW, modulo LENGTH, are all different");
-        rowsAnswer(1, "0", 1, "1", 1, "9", 1, "10", 0, "09", 0, "18", 0, "19", 1, "20", 1, "321", 0,
+        Answers.ofRows(1, "0", 1, "1", 1, "9", 1, "10", 0, "09", 0, "18", 0, "19", 1, "20", 1, "321", 0,
                 "80000000", 1, "90000000", 0, "00000008", 1, "00000009", 0, "70000001", 1, "00000000", 1,
                 "99999999", 1, "99999998", 0, "89999999", 0);
     }
@@ -163,14 +148,14 @@ public final class TermsEdgesTest {
     private static void props() {
         Check.sentence(ROWS, "Its PROPS are the sum of THROWS divided by LENGTH (NONE of one that is not SOUND).");
         // The sums of 321 and 3450 can be divided by LENGTH, and still they are not SOUND.
-        rowsAnswer(2, "0", 0, "00000000", 0, "80000000", 1, "9", 9, "99999999", 9, "321", -1, "3450", -1, "10", -1,
+        Answers.ofRows(2, "0", 0, "00000000", 0, "80000000", 1, "9", 9, "99999999", 9, "321", -1, "3450", -1, "10", -1,
                 "90000000", -1);
     }
 
     private static void crosses() {
         Check.sentence(ROWS, "The right hand throws at even beats, the left one at odd beats; "
                 + "a THROW CROSSES, if it is odd.");
-        rowsAnswer(4, "0", 0, "1", 1, "8", 0, "9", 1, "00000000", 0, "99999999", 8, "02468", 0, "13579", 5,
+        Answers.ofRows(4, "0", 0, "1", 1, "8", 0, "9", 1, "00000000", 0, "99999999", 8, "02468", 0, "13579", 5,
                 "00000001", 1, "10000000", 1);
         Cascadecourt court = Courts.thrown(6);
         for (int prop = 0; prop < 6; prop++) {
@@ -181,25 +166,25 @@ public final class TermsEdgesTest {
     private static void orbits() {
         Check.sentence(ROWS, "from a SITE with a THROW above 0 one comes to that at which it lands (modulo LENGTH), "
                 + "and so on, till the first one; each SITE with a THROW above 0 is in one ORBIT.");
-        rowsAnswer(5, "0", 0, "00000000", 0, "1", 1, "80000000", 1, "08000000", 1, "88888888", 8, "11111111", 1,
+        Answers.ofRows(5, "0", 0, "00000000", 0, "1", 1, "80000000", 1, "08000000", 1, "88888888", 8, "11111111", 1,
                 "99999999", 1, "70000001", 1, "19", 1, "20", 1, "31", 1, "22", 2, "24", 2, "0110", -1, "321", -1);
     }
 
     private static void turnOfOrbit() {
         Check.sentence(ROWS, "Its TURN is the sum of its THROWS (how many beats till that is again), "
                 + "its PROPS that divided by LENGTH.");
-        sitesAnswer("70000001", 3, 8, 0, 0, 0, 0, 0, 0, 8);
-        sitesAnswer("70000001", 4, 1, 0, 0, 0, 0, 0, 0, 1);
-        sitesAnswer("99999999", 3, 72, 72, 72, 72, 72, 72, 72, 72);
-        sitesAnswer("99999999", 4, 9, 9, 9, 9, 9, 9, 9, 9);
-        sitesAnswer("88888888", 3, 8, 8, 8, 8, 8, 8, 8, 8);
-        sitesAnswer("88888888", 4, 1, 1, 1, 1, 1, 1, 1, 1);
-        sitesAnswer("9", 3, 9);
-        sitesAnswer("9", 4, 9);
-        sitesAnswer("0", 3, 0);
-        sitesAnswer("0", 4, 0);
-        sitesAnswer("28", 3, 2, 8);
-        sitesAnswer("28", 4, 1, 4);
+        Answers.ofSites("70000001", 3, 8, 0, 0, 0, 0, 0, 0, 8);
+        Answers.ofSites("70000001", 4, 1, 0, 0, 0, 0, 0, 0, 1);
+        Answers.ofSites("99999999", 3, 72, 72, 72, 72, 72, 72, 72, 72);
+        Answers.ofSites("99999999", 4, 9, 9, 9, 9, 9, 9, 9, 9);
+        Answers.ofSites("88888888", 3, 8, 8, 8, 8, 8, 8, 8, 8);
+        Answers.ofSites("88888888", 4, 1, 1, 1, 1, 1, 1, 1, 1);
+        Answers.ofSites("9", 3, 9);
+        Answers.ofSites("9", 4, 9);
+        Answers.ofSites("0", 3, 0);
+        Answers.ofSites("0", 4, 0);
+        Answers.ofSites("28", 3, 2, 8);
+        Answers.ofSites("28", 4, 1, 4);
     }
 
     private static void numbersOfState() {
@@ -211,7 +196,7 @@ public final class TermsEdgesTest {
         Check.that("0 and 8", 257, Courts.thrown(2, 9).many(2));
         // Six props at the beats 9 to 14, six beats behind the first one.
         Check.that("3 to 8", 504, Courts.thrown(6, 9, 9, 9, 9, 9, 9).many(2));
-        sitesAnswer("9", 2, 511);
+        Answers.ofSites("9", 2, 511);
     }
 
     private static void wouldBe(Cascadecourt court, int... due) {
@@ -263,30 +248,30 @@ public final class TermsEdgesTest {
     private static void stateOfRow() {
         Check.sentence(STATES, "k is in it, if one of the THROWS ahead (it goes on without a beginning) "
                 + "lands k beats behind that SITE, and was thrown ahead of it.");
-        sitesAnswer("0", 2, 0);
-        sitesAnswer("1", 2, 1);
-        sitesAnswer("9", 2, 511);
-        sitesAnswer("00000000", 2, 0, 0, 0, 0, 0, 0, 0, 0);
-        sitesAnswer("80000000", 2, 1, 128, 64, 32, 16, 8, 4, 2);
-        sitesAnswer("00000008", 2, 128, 64, 32, 16, 8, 4, 2, 1);
-        sitesAnswer("70000001", 2, 1, 64, 32, 16, 8, 4, 2, 1);
-        sitesAnswer("19", 2, 341, 171);
+        Answers.ofSites("0", 2, 0);
+        Answers.ofSites("1", 2, 1);
+        Answers.ofSites("9", 2, 511);
+        Answers.ofSites("00000000", 2, 0, 0, 0, 0, 0, 0, 0, 0);
+        Answers.ofSites("80000000", 2, 1, 128, 64, 32, 16, 8, 4, 2);
+        Answers.ofSites("00000008", 2, 128, 64, 32, 16, 8, 4, 2, 1);
+        Answers.ofSites("70000001", 2, 1, 64, 32, 16, 8, 4, 2, 1);
+        Answers.ofSites("19", 2, 341, 171);
         // The 9 of SITE 0 is in the air for more than two rounds.
-        sitesAnswer("9111", 2, 35, 273, 137, 69);
-        sitesAnswer("20", 2, 1, 2);
+        Answers.ofSites("9111", 2, 35, 273, 137, 69);
+        Answers.ofSites("20", 2, 1, 2);
     }
 
     private static void prime() {
         Check.sentence(STATES, "It is PRIME, if the STATES at all its SITES are different.");
         // One SITE alone; the first two, the last two, two in the midst, the first and the last one the same.
-        rowsAnswer(6, "0", 1, "5", 1, "9", 1, "00", 0, "99999999", 0, "80000000", 1, "20", 1,
+        Answers.ofRows(6, "0", 1, "5", 1, "9", 1, "00", 0, "99999999", 0, "80000000", 1, "20", 1,
                 "3441", 0, "4134", 0, "1344", 0, "4413", 0, "70000001", 0, "441", 1, "441441", 0, "321", -1);
     }
 
     private static void groundRow() {
         Check.sentence(STATES, "It is a GROUND ROW, if one of them is the GROUND of its PROPS.");
         // At the SITE 0 alone, at the last one alone, at none; of no props, and of nine.
-        rowsAnswer(7, "441", 1, "414", 1, "144", 1, "51", 0, "15", 0, "40", 0, "0", 1, "00000000", 1, "9", 1,
+        Answers.ofRows(7, "441", 1, "414", 1, "144", 1, "51", 0, "15", 0, "40", 0, "0", 1, "00000000", 1, "9", 1,
                 "99999999", 1, "08000000", 1, "19", 0, "321", -1);
     }
 

@@ -388,5 +388,9 @@ public final class WouldBeEdgesTest {
         Check.that("of 1.25", digestOfAnswers(court, 10), court.digest());
         court.toss(0);
         Check.that("of 1.0", digestOfAnswers(court, 8), court.digest());
+        Cascadecourt much = taken(6, "6");
+        much.run(0, 0, 30);
+        much.toss(7);
+        Check.that("of 23.375", digestOfAnswers(much, 187), much.digest());
     }
 }

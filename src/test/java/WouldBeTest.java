@@ -1,8 +1,5 @@
 /** Promises 19 to 24: what would be, and the digest. */
 public final class WouldBeTest {
-    private static final Class<IndexOutOfBoundsException> INDEX = IndexOutOfBoundsException.class;
-    private static final Class<IllegalArgumentException> ARGUMENT = IllegalArgumentException.class;
-
     public static void main(String[] args) {
         would();
         way();
@@ -13,14 +10,6 @@ public final class WouldBeTest {
         digest();
         digestOfAll();
         Check.end("WouldBeTest");
-    }
-
-    private static Cascadecourt courtWith(String... rows) {
-        Cascadecourt court = new Cascadecourt();
-        for (String row : rows) {
-            court.tell(Integer.parseInt(row), row.length());
-        }
-        return court;
     }
 
     private static void wouldBe(Cascadecourt court, int... due) {
@@ -46,9 +35,9 @@ public final class WouldBeTest {
         court.take(1);
         court.toss(2);
         wouldBe(court, 1, -1, -1, -1, -1, -1, -1, -1, -1, -1);
-        Check.fails("would(-1)", ARGUMENT, court, () -> court.would(-1));
-        Check.fails("would(10)", ARGUMENT, court, () -> court.would(10));
-        Check.fails("would(32)", ARGUMENT, court, () -> court.would(32));
+        Check.fails("would(-1)", Check.ARGUMENT, court, () -> court.would(-1));
+        Check.fails("would(10)", Check.ARGUMENT, court, () -> court.would(10));
+        Check.fails("would(32)", Check.ARGUMENT, court, () -> court.would(32));
     }
 
     private static void wayIs(Cascadecourt court, int row, int way, int first) {
@@ -59,7 +48,7 @@ public final class WouldBeTest {
     }
 
     private static void way() {
-        Cascadecourt court = courtWith("3", "51", "441", "900", "333", "9", "321", "42");
+        Cascadecourt court = Courts.with("3", "51", "441", "900", "333", "9", "321", "42");
         court.take(3);
         wayIs(court, 0, 0, -1);
         wayIs(court, 1, 1, 4);
@@ -72,14 +61,14 @@ public final class WouldBeTest {
         wayIs(court, 0, 2, 2);
         court.toss(0);
         wayIs(court, 0, -1, -1);
-        Check.fails("way(8)", INDEX, court, () -> court.way(8));
-        Check.fails("way(-1)", INDEX, court, () -> court.way(-1));
-        Check.fails("first(8)", INDEX, court, () -> court.first(8));
-        Check.fails("first(-1)", INDEX, court, () -> court.first(-1));
+        Check.fails("way(8)", Check.INDEX, court, () -> court.way(8));
+        Check.fails("way(-1)", Check.INDEX, court, () -> court.way(-1));
+        Check.fails("first(8)", Check.INDEX, court, () -> court.first(8));
+        Check.fails("first(-1)", Check.INDEX, court, () -> court.first(-1));
     }
 
     private static void wayStepByStep() {
-        Cascadecourt court = courtWith("900");
+        Cascadecourt court = Courts.with("900");
         court.take(3);
         // At 2 beats the props are to land at 2, 5 and 8: the first one by 5 or 8, the smaller one is 5.
         wayIs(court, 0, 2, 5);
@@ -94,7 +83,7 @@ public final class WouldBeTest {
     }
 
     private static void wayWithoutAny() {
-        Cascadecourt court = courtWith("0", "00", "1", "21");
+        Cascadecourt court = Courts.with("0", "00", "1", "21");
         wayIs(court, 0, 0, -1);
         wayIs(court, 1, 0, -1);
         wayIs(court, 2, -1, -1);
@@ -113,7 +102,7 @@ public final class WouldBeTest {
     }
 
     private static void count() {
-        Cascadecourt court = courtWith("3");
+        Cascadecourt court = Courts.with("3");
         for (int props = 0; props <= 9; props++) {
             Check.that("count(1, " + props + ")", 1, court.count(1, props));
         }
@@ -130,12 +119,12 @@ public final class WouldBeTest {
         Check.that("count(3, 2)", 19, court.count(3, 2));
         Check.that("count(4, 1)", 15, court.count(4, 1));
         Check.that("count(4, 2)", 65, court.count(4, 2));
-        Check.fails("count(0, 0)", ARGUMENT, court, () -> court.count(0, 0));
-        Check.fails("count(-1, 0)", ARGUMENT, court, () -> court.count(-1, 0));
-        Check.fails("count(5, 0)", ARGUMENT, court, () -> court.count(5, 0));
-        Check.fails("count(1, -1)", ARGUMENT, court, () -> court.count(1, -1));
-        Check.fails("count(1, 10)", ARGUMENT, court, () -> court.count(1, 10));
-        Check.fails("count(max, max)", ARGUMENT, court, () -> court.count(Integer.MAX_VALUE, Integer.MAX_VALUE));
+        Check.fails("count(0, 0)", Check.ARGUMENT, court, () -> court.count(0, 0));
+        Check.fails("count(-1, 0)", Check.ARGUMENT, court, () -> court.count(-1, 0));
+        Check.fails("count(5, 0)", Check.ARGUMENT, court, () -> court.count(5, 0));
+        Check.fails("count(1, -1)", Check.ARGUMENT, court, () -> court.count(1, -1));
+        Check.fails("count(1, 10)", Check.ARGUMENT, court, () -> court.count(1, 10));
+        Check.fails("count(max, max)", Check.ARGUMENT, court, () -> court.count(Integer.MAX_VALUE, Integer.MAX_VALUE));
     }
 
     private static int countOneByOne(int length, int props) {
@@ -164,7 +153,7 @@ public final class WouldBeTest {
     }
 
     private static void alike() {
-        Cascadecourt court = courtWith("12345", "34512", "4242", "2424", "3", "33", "51234567", "75123456");
+        Cascadecourt court = Courts.with("12345", "34512", "4242", "2424", "3", "33", "51234567", "75123456");
         Check.that("alike(0, 1)", 2, court.alike(0, 1));
         Check.that("alike(1, 0)", 3, court.alike(1, 0));
         Check.that("alike(0, 0)", 0, court.alike(0, 0));
@@ -177,15 +166,15 @@ public final class WouldBeTest {
         Check.that("alike(7, 6)", 1, court.alike(7, 6));
         court.swap(1, 3, 4);
         Check.that("alike: the same sum, other THROWS", -1, court.alike(0, 1));
-        Cascadecourt near = courtWith("345", "945", "349");
+        Cascadecourt near = Courts.with("345", "945", "349");
         Check.that("alike: another THROW at SITE 0", -1, near.alike(0, 1));
         Check.that("alike: another THROW at the last SITE", -1, near.alike(0, 2));
-        Cascadecourt two = courtWith("3", "3");
+        Cascadecourt two = Courts.with("3", "3");
         Check.that("alike(0, 1) of 3 and 3", 0, two.alike(0, 1));
-        Check.fails("alike(0, 2)", INDEX, two, () -> two.alike(0, 2));
-        Check.fails("alike(2, 0)", INDEX, two, () -> two.alike(2, 0));
-        Check.fails("alike(-1, 0)", INDEX, two, () -> two.alike(-1, 0));
-        Check.fails("alike(0, -1)", INDEX, two, () -> two.alike(0, -1));
+        Check.fails("alike(0, 2)", Check.INDEX, two, () -> two.alike(0, 2));
+        Check.fails("alike(2, 0)", Check.INDEX, two, () -> two.alike(2, 0));
+        Check.fails("alike(-1, 0)", Check.INDEX, two, () -> two.alike(-1, 0));
+        Check.fails("alike(0, -1)", Check.INDEX, two, () -> two.alike(0, -1));
     }
 
     private static long digestOf(long... numbers) {
@@ -218,7 +207,7 @@ public final class WouldBeTest {
 
     /** The digest is made of what the other calls answer. */
     private static void digestOfAll() {
-        Cascadecourt court = courtWith("441", "6040", "97531", "12345678");
+        Cascadecourt court = Courts.with("441", "6040", "97531", "12345678");
         court.take(5);
         court.run(0, 1, 7);
         court.pick();
